@@ -327,7 +327,8 @@ public final class RevisionStores {
 
     /** Some of the tree's revisions, with their leaves and the winners among these. */
     private static final class Holding {
-        private static final int NO_LEAF = Integer.MAX_VALUE;
+        // Above every generation, so that the lowest one is found by min alone.
+        private static final int NO_LEAF = MOST_REVISIONS + 1;
 
         private final boolean[] held = new boolean[MOST_REVISIONS];
         // For each revision, held or not, the lowest generation of the leaves that descend from it.

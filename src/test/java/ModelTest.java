@@ -15,7 +15,7 @@ public final class ModelTest {
     private static boolean failed;
     private static int called;
 
-    // How many documents and values a run uses, its greatest depth (0: always 20), how often it wipes and errs.
+    // How many documents and values a run uses, its greatest depth (0: never set), how often it wipes and errs.
     private static int documents;
     private static int values;
     private static int depths;
@@ -111,8 +111,8 @@ public final class ModelTest {
             call("delete(" + store + ", " + document + ", " + revision + ")",
                     () -> real.delete(store, document, revision),
                     () -> model.delete(store, document, revision));
-        } else if (kind < 70) {
-            int depth = chance(wrongs) ? pick(0, 21) : depths == 0 ? 20 : 1 + below(depths);
+        } else if (kind < 70 && depths > 0) {
+            int depth = chance(wrongs) ? pick(0, 21) : 1 + below(depths);
             call("setDepth(" + store + ", " + depth + ")",
                     () -> real.setDepth(store, depth), () -> model.setDepth(store, depth));
         } else if (kind < 70 + wipes) {

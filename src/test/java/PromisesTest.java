@@ -1,4 +1,4 @@
-/** Each promise by ordinary calls, the edges that the document names, and wrong inputs, with answers reckoned by hand. */
+/** Each promise by ordinary calls, the edges that the document names, and wrong inputs; answers reckoned by hand. */
 public final class PromisesTest {
     private static final int LOWEST = Integer.MIN_VALUE;
     private static final int HIGHEST = Integer.MAX_VALUE;
@@ -406,6 +406,15 @@ public final class PromisesTest {
         check.due("6 ancestors that it has are not got", y.replicate(1, 2, 4), 2);
         check.due("6 and are stemmed", y.size(2), 1);
         check.due("6 with a sequence for it", y.sequence(2), 2);
+
+        RevisionStores z = new RevisionStores();
+        chain(z, 0, 0, 3);
+        z.setDepth(1, 1);
+        z.replicate(0, 1, 4);
+        z.setDepth(1, 20);
+        z.replicate(0, 2, 4);
+        check.due("6 it has the leaf, and gets no ancestors", z.replicate(2, 1, 4), 0);
+        check.due("6 its size stays", z.size(1), 1);
     }
 
     private static void replicateCountsWhatIsStemmed() {
