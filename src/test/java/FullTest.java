@@ -56,7 +56,8 @@ public final class FullTest {
         check.due("9 made then", x.revisions(), 150);
     }
 
-    // Promise 2: "IllegalStateException if .. there are 150 revisions (also if the revision would be one that there is)".
+    // Promise 2: "IllegalStateException if .. there are 150 revisions (also if the revision would be one that there
+    // is)".
     private static void editsRefused() {
         Refusals full = new Refusals(check, "full", Situations::full);
         full.state("2 a new one behind the last", x -> x.edit(0, 0, 149, 99));
@@ -68,7 +69,8 @@ public final class FullTest {
         full.state("2 a beginning that there is", x -> x.edit(2, 0, -1, 0));
     }
 
-    // Promise 3: "IllegalStateException if .. there are 150 revisions (also if the revision would be one that there is)".
+    // Promise 3: "IllegalStateException if .. there are 150 revisions (also if the revision would be one that there
+    // is)".
     private static void deletesRefused() {
         Refusals full = new Refusals(check, "full", Situations::full);
         full.state("3 of the last one", x -> x.delete(0, 0, 149));

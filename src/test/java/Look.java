@@ -47,7 +47,7 @@ final class Look {
         return seen.toString();
     }
 
-    private static List<Integer> someRevisions(int made) {
+    static List<Integer> someRevisions(int made) {
         List<Integer> some = new ArrayList<>();
         for (int revision = 0; revision < made; revision++) {
             if (revision < ENDS || revision >= made - ENDS) {

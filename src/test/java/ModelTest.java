@@ -5,6 +5,8 @@ import java.util.List;
 public final class ModelTest {
     private static final int RUNS = 600;
     private static final int MOST_CALLS = 512;
+    // The calls of agree: two replications, and the winners of four documents at two stores.
+    private static final int AGREEING = 10;
 
     private static final Check check = new Check("ModelTest");
     private static long seed;
@@ -36,8 +38,11 @@ public final class ModelTest {
                     ask();
                 }
             }
-            while (looksLast && called < MOST_CALLS && !failed) {
+            while (looksLast && called < MOST_CALLS - AGREEING && !failed) {
                 ask();
+            }
+            if (looksLast && !failed) {
+                agree();
             }
         }
         check.end();
@@ -125,8 +130,25 @@ public final class ModelTest {
     private static void replicate(int from) {
         int to = chance(90) && from >= 0 ? (from + 1 + below(2)) % 3 : store();
         int limit = chance(wrongs) ? pick(0, 5) : 1 + below(4);
+        replicate(from, to, limit);
+    }
+
+    private static void replicate(int from, int to, int limit) {
         call("replicate(" + from + ", " + to + ", " + limit + ")",
                 () -> real.replicate(from, to, limit), () -> model.replicate(from, to, limit));
+    }
+
+    // "Two stores that have replicated both ways have the same winners", whatever went on before.
+    private static void agree() {
+        int one = below(3);
+        int other = (one + 1 + below(2)) % 3;
+        replicate(one, other, 4);
+        replicate(other, one, 4);
+        for (int document = 0; document < 4; document++) {
+            int of = document;
+            call("winner(" + one + ", " + of + ") beside winner(" + other + ", " + of + ")",
+                    () -> real.winner(one, of), () -> real.winner(other, of));
+        }
     }
 
     private static void ask() {

@@ -42,15 +42,6 @@ public final class PromisesTest {
         check.end();
     }
 
-    /** A document's chain at a store, each revision behind the one before, with values from 1 on. */
-    private static int chain(RevisionStores x, int store, int document, int length) {
-        int leaf = -1;
-        for (int value = 1; value <= length; value++) {
-            leaf = x.edit(store, document, leaf, value);
-        }
-        return leaf;
-    }
-
     private static void noStore(String call, StoreCall run) {
         for (int store : new int[] {-1, 3, LOWEST, HIGHEST}) {
             check.noIndex(call + " with store " + store, () -> run.answer(store));
@@ -94,7 +85,7 @@ public final class PromisesTest {
             }
         }
         // The depth is 20 at first: the first revision is stemmed behind the twenty-first.
-        chain(x, 0, 0, 20);
+        Situations.chain(x, 0, 0, 20);
         check.due("1 size at depth 20", x.size(0), 20);
         x.edit(0, 0, 19, 0);
         check.due("1 size is still 20", x.size(0), 20);
@@ -159,7 +150,7 @@ public final class PromisesTest {
 
     private static void editsToTheLimit() {
         RevisionStores x = new RevisionStores();
-        check.due("2 the 150th", chain(x, 0, 0, 99), 98);
+        check.due("2 the 150th", Situations.chain(x, 0, 0, 99), 98);
         int leaf = 98;
         for (int value = 0; value < 51; value++) {
             leaf = x.edit(0, 0, leaf, value);
@@ -222,7 +213,7 @@ public final class PromisesTest {
 
     private static void setDepth() {
         RevisionStores x = new RevisionStores();
-        chain(x, 0, 0, 5);
+        Situations.chain(x, 0, 0, 5);
         check.due("4 highest", x.setDepth(0, 20), 0);
         check.due("4 as deep as the chain", x.setDepth(0, 5), 0);
         check.due("4 one less", x.setDepth(0, 4), 1);
@@ -241,10 +232,10 @@ public final class PromisesTest {
         x.setDepth(0, 1);
         x.edit(0, 0, 5, 7);
         check.due("4 stemmed by an edit", x.size(0), 1);
-        check.due("4 another store's depth", chain(x, 1, 1, 3), 9);
+        check.due("4 another store's depth", Situations.chain(x, 1, 1, 3), 9);
         check.due("4 is its own", x.size(1), 3);
         x.wipe(0);
-        chain(x, 0, 2, 3);
+        Situations.chain(x, 0, 2, 3);
         check.due("4 the depth outlives a wipe", x.size(0), 1);
 
         noStore("4 setDepth", store -> x.setDepth(store, 5));
@@ -257,7 +248,7 @@ public final class PromisesTest {
     private static void stemsByBranches() {
         RevisionStores x = new RevisionStores();
         // 0 - 1 - 2 - 3 at store 0, and 0 - 4 from store 1.
-        chain(x, 0, 0, 4);
+        Situations.chain(x, 0, 0, 4);
         x.edit(1, 0, -1, 1);
         x.edit(1, 0, 0, 50);
         x.replicate(1, 0, 4);
@@ -278,8 +269,8 @@ public final class PromisesTest {
     private static void wipe() {
         RevisionStores x = new RevisionStores();
         check.due("5 an empty store", x.wipe(0), 0);
-        chain(x, 0, 0, 3);
-        chain(x, 0, 1, 2);
+        Situations.chain(x, 0, 0, 3);
+        Situations.chain(x, 0, 1, 2);
         x.edit(1, 2, -1, 7);
         check.due("5 what it had", x.wipe(0), 5);
         check.due("5 size", x.size(0), 0);
@@ -294,14 +285,14 @@ public final class PromisesTest {
         check.due("5 the other store stays", x.size(1), 1);
         check.due("5 again", x.wipe(0), 0);
         check.due("5 what is stemmed does not count", x.setDepth(0, 1), 0);
-        chain(x, 0, 3, 4);
+        Situations.chain(x, 0, 3, 4);
         check.due("5 one was left", x.wipe(0), 1);
         noStore("5 wipe", store -> x.wipe(store));
     }
 
     private static void wipeLosesCheckpoints() {
         RevisionStores x = new RevisionStores();
-        chain(x, 0, 0, 3);
+        Situations.chain(x, 0, 0, 3);
         x.edit(1, 1, -1, 1);
         x.edit(2, 2, -1, 1);
         x.replicate(0, 1, 4);
@@ -326,8 +317,8 @@ public final class PromisesTest {
 
     private static void replicate() {
         RevisionStores x = new RevisionStores();
-        chain(x, 0, 0, 3);
-        chain(x, 0, 1, 2);
+        Situations.chain(x, 0, 0, 3);
+        Situations.chain(x, 0, 1, 2);
         check.due("6 all that it has", x.replicate(0, 1, 4), 5);
         check.due("6 size", x.size(1), 5);
         check.due("6 sequence is one for each document", x.sequence(1), 2);
@@ -383,14 +374,14 @@ public final class PromisesTest {
 
     private static void replicateSkipsWhatIsKnown() {
         RevisionStores x = new RevisionStores();
-        chain(x, 0, 0, 2);
+        Situations.chain(x, 0, 0, 2);
         x.replicate(0, 1, 4);
         x.edit(1, 0, 1, 3);
         x.setDepth(1, 1);
         // Store 1 has only revision 2, which descends from all that store 0 has.
         check.due("6 it has a descendant of the leaf", x.replicate(0, 1, 4), 0);
         x.wipe(0);
-        chain(x, 0, 0, 2);
+        Situations.chain(x, 0, 0, 2);
         check.due("6 also after a wipe", x.replicate(0, 1, 4), 0);
         check.due("6 no sequence for it", x.sequence(1), 2);
         check.due("6 a document gone through counts", x.checkpoint(0, 1), 2);
@@ -398,7 +389,7 @@ public final class PromisesTest {
         check.due("6 and the ancestors stay", x.size(0), 3);
 
         RevisionStores y = new RevisionStores();
-        chain(y, 0, 0, 2);
+        Situations.chain(y, 0, 0, 2);
         y.replicate(0, 1, 4);
         y.edit(1, 0, 1, 3);
         y.setDepth(2, 1);
@@ -408,7 +399,7 @@ public final class PromisesTest {
         check.due("6 with a sequence for it", y.sequence(2), 2);
 
         RevisionStores z = new RevisionStores();
-        chain(z, 0, 0, 3);
+        Situations.chain(z, 0, 0, 3);
         z.setDepth(1, 1);
         z.replicate(0, 1, 4);
         z.setDepth(1, 20);
@@ -420,13 +411,13 @@ public final class PromisesTest {
     private static void replicateCountsWhatIsStemmed() {
         RevisionStores x = new RevisionStores();
         x.setDepth(1, 2);
-        chain(x, 0, 0, 5);
+        Situations.chain(x, 0, 0, 5);
         check.due("6 stemmed at once included", x.replicate(0, 1, 4), 5);
         check.due("6 what is left of it", x.size(1), 2);
 
         // Two leaves at once: 0 - 1 - 2 - 3 and 0 - 4; the document comes whole, and is stemmed then.
         RevisionStores y = new RevisionStores();
-        chain(y, 0, 0, 4);
+        Situations.chain(y, 0, 0, 4);
         y.edit(1, 0, -1, 1);
         y.edit(1, 0, 0, 50);
         y.replicate(1, 0, 4);
@@ -440,7 +431,7 @@ public final class PromisesTest {
 
     private static void replicateBeyondGaps() {
         RevisionStores x = new RevisionStores();
-        chain(x, 0, 0, 4);
+        Situations.chain(x, 0, 0, 4);
         x.edit(1, 0, -1, 1);
         x.edit(1, 0, 0, 50);
         x.replicate(1, 0, 4);
@@ -465,7 +456,7 @@ public final class PromisesTest {
     private static void pending() {
         RevisionStores x = new RevisionStores();
         for (int document = 0; document < 4; document++) {
-            chain(x, 0, document, 2);
+            Situations.chain(x, 0, document, 2);
         }
         check.due("7 all documents", x.pending(0, 1), 4);
         check.due("7 nothing back", x.pending(1, 0), 0);
@@ -489,8 +480,8 @@ public final class PromisesTest {
 
     private static void checkpoint() {
         RevisionStores x = new RevisionStores();
-        chain(x, 0, 0, 3);
-        chain(x, 0, 1, 2);
+        Situations.chain(x, 0, 0, 3);
+        Situations.chain(x, 0, 1, 2);
         x.replicate(0, 1, 1);
         check.due("8 broken off", x.checkpoint(0, 1), 3);
         check.due("8 the other way", x.checkpoint(1, 0), 0);
@@ -791,7 +782,7 @@ public final class PromisesTest {
 
     private static void thrownCallsChangeNothing() {
         RevisionStores x = new RevisionStores();
-        chain(x, 0, 0, 3);
+        Situations.chain(x, 0, 0, 3);
         x.edit(0, 1, -1, 4);
         x.replicate(0, 1, 1);
         String before = state(x);
